@@ -87,6 +87,16 @@ public final class DiscTest {
         Due.due("steep from the last to the first", x.disc(2), 24);
         Due.work(x, 7, 0);
         Due.due("one stitch is steep by 0", x.disc(2), 0);
+        // What a greater disc left behind isn't looked at.
+        CamStitch y = new CamStitch();
+        Due.work(y, 3, 1, 12, 12, -12, -12);
+        Due.read(y, 1, 3, 0, 6, 1, 0);
+        Due.due("make", y.make(1, 1), 1);
+        int[] due = {1, 1, 0, 3, 3, 1, 1};
+        for (int what = 0; what < 7; what++) {
+            Due.due("one stitch: " + what, y.disc(what), due[what]);
+        }
+        Due.due("one stitch makes it", y.makes(), 9999);
     }
 
     private static void filed() {
@@ -187,6 +197,10 @@ public final class DiscTest {
         Due.due("it stays there", x.take(0), 3);
         Due.due("bare still", x.take(3), -3);
         Due.stitches(x, "refused", 5, 6, 7, 8, 9, 10);
+        Due.work(x, 4, 4);
+        Due.due("lay one stitch", x.lay(2), 1);
+        Due.due("shelves", x.count(1), 3);
+        Due.due("take", x.take(0), 3);
         // A shelf keeps the disc as it was laid: what is filed or turned is the one at work.
         x.file(0, 0, 0);
         x.turn(1, 1);

@@ -158,6 +158,10 @@ public final class FaultTest {
         Due.due("of 5", x.share(1, trial(1, 1, 0)), 5);
         Due.due("3 and 2", x.share(1, trial(1, 4, 0)), 3);
         x.noteless();
+        x.note(trial(1, 1, 0), 2);
+        Due.due("3 and 2 below", x.share(1, trial(1, 4, 0)), 3);
+        Due.due("of 5 below", x.share(1, trial(5, 1, 0)), 5);
+        x.noteless();
         x.note(trial(4, 1, 4), 4);
         Due.due("4 broken", x.share(4, trial(4, 1, 4)), 4);
         Due.due("2 broken, 2 skipped", x.share(4, trial(5, 1, 4)), 2);
@@ -195,6 +199,12 @@ public final class FaultTest {
         z.note(trial(5, 1, 0), 1);
         z.note(trial(2, 3, 3), 3);
         Due.due("with notes", z.best(4), bestByShares(z, 4));
+        // TIMING -2 .. 2, WORN, or PULL -1 .. 1: PULL alone can be told, on CLOTH 1.
+        CamStitch u = new CamStitch();
+        u.note(trial(5, 2, 6), 0);
+        Due.due("ten are left", u.left(1), 10);
+        Due.due("the first trial of all", u.best(1), 0);
+        Due.due("parts 1, 1 and 8", u.share(1, 0), 8);
         // PULL 4 or 5, and no TRIAL parts them.
         CamStitch v = new CamStitch();
         v.note(trial(1, 5, 0), 3);
@@ -214,9 +224,11 @@ public final class FaultTest {
         Due.due("no trial: not this one", x.hunt(5, 0, 2), 0);
         Due.due("no trial: no last", x.hunt(5, 0, 3), -2);
         Due.due("the one", x.hunt(state(0, 0, 0, 0), 0, 2), 1);
+        Due.due("another PULL than the one", x.hunt(state(0, 0, 0, 5), 0, 2), 0);
         x.note(7, 1);
         x.note(9, 2);
-        int[][] hunted = {{0, 4}, {5, 2}, {1391, 1}, {2771, 3}, {1369, 4}, {700, 1}};
+        int[][] hunted = {{0, 4}, {5, 2}, {1391, 1}, {2771, 3}, {1369, 4}, {700, 1}, {state(0, 0, 1, 0), 1},
+            {state(1, 0, 0, 0), 1}, {state(2, 1, 0, 0), 2}, {state(-3, 0, 2, 0), 2}};
         for (int[] h : hunted) {
             hunted(x, h[0], h[1]);
         }

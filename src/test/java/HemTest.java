@@ -98,6 +98,17 @@ public final class HemTest {
         Due.due("fed 2, 0", x.fed(2, 0), 2);
         Due.due("fed 2, 1", x.fed(2, 1), -1);
         Due.due("fed 2, 2", x.fed(2, 2), 2);
+        // One stitch.
+        CamStitch z = new CamStitch();
+        Due.work(z, 0, 9);
+        z.side(5);
+        z.side(21);
+        hemIs(z, 0, 1, -4, 1, 1, 4);
+        hemIs(z, 1, 2, 3, 1, 2, 2);
+        Due.due("one stitch less 4", z.fed(0, 0), 5);
+        Due.due("9 and 1", z.fed(1, 0), 10);
+        Due.due("9 and 2", z.fed(1, 1), 11);
+        Due.state("no more", () -> z.fed(0, 1));
         // The most stitches that a side can have.
         CamStitch y = new CamStitch();
         Due.read(y, 1, 0, 0, 6, 48, 0);

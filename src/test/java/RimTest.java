@@ -75,6 +75,7 @@ public final class RimTest {
         Due.due("all missing", x.names(0, 3), 12);
         Due.due("the last of all", x.name(0, 3, 11), 6103);
         Due.due("shelf 6's first", x.name(0, 3, 4), 6000);
+        Due.due("all missing isn't worn", x.wear(0), 0);
         // Longer than the disc: round and round.
         Due.row(x, 0, 1, 2, 3, 2, 1, 2, 3);
         Due.due("round", x.names(0, 0), 2);

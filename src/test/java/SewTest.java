@@ -200,6 +200,12 @@ public final class SewTest {
         // dy turns its sign while BACK, dx doesn't: 2 -3, -2 -1, 2 -3 | -2 1 | turned 1 and BACK: 2 -3.
         places(x, "back", 2, -3, 0, -4, 2, -7, 0, -6, 3, -4);
         seamIs(x, "back", 5, 3, -4, 1, 1, 0, 0, 21 + 20, 21 + 20, 8);
+        // The next seam begins anew: not BACK, QUARTER 0.
+        x.stepless();
+        x.step(1, 5);
+        Due.due("sew", x.sew(), 5);
+        places(x, "anew", 2, 3, 0, 4, 2, 7, 0, 8, 2, 11);
+        seamIs(x, "anew", 5, 2, 11, 0, 0, 0, 0, 41, 41, 1);
         Due.argument("sewn what 2", () -> x.sewn(0, 2));
         Due.argument("sewn what 2, no stitch", () -> x.sewn(9, 2));
         Due.state("stitch -1", () -> x.sewn(-1, 0));
@@ -345,6 +351,16 @@ public final class SewTest {
         Due.due("sew", x.sew(), 7);
         // y 1, 2, 1, 0, -1, -2, -1: 1 again, the beginning, -1 again.
         seamIs(x, "to and fro", 7, 0, -1, 0, 0, 0, 3, 35, 35, 5);
+        // A place counts whichever of the stitches was there: y 1, 2, 3, then 2 and 1.
+        CamStitch y = new CamStitch();
+        Due.work(y, 0, 1);
+        y.step(1, 3);
+        y.step(3, 0);
+        for (int i = 1; i <= 2; i++) {
+            y.step(1, 1);
+            Due.due("sew", y.sew(), 3 + i);
+            Due.due("returns", y.seam(6), i);
+        }
         x.file(0, 0, 0);
         Due.due("sew", x.sew(), 7);
         Due.due("all at the beginning", x.seam(6), 7);
