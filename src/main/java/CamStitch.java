@@ -378,6 +378,10 @@ public final class CamStitch {
     }
 
     public int name(int d, int wear, int i) {
+        // There is no such name whatever the TAPE holds, and NONE is named ahead of the host's refusals.
+        if (i < 0) {
+            return NONE;
+        }
         int against = againstRim(d, wear);
         return counted(against != FINE ? against : rim.find(tapes[d], shelves, wear, i));
     }
@@ -453,7 +457,7 @@ public final class CamStitch {
     }
 
     public int hunt(int state, int m, int what) {
-        if (!isState(state) || !isCauses(m) || what < 0) {
+        if (!isState(state) || !isCauses(m) || what < 0 || what > 3) {
             return NONE;
         }
         int made = faults.hunted(state, m);
@@ -461,7 +465,6 @@ public final class CamStitch {
             case 0: return made;
             case 1: return faults.size;
             case 2: return faults.holds(state) ? 1 : 0;
-            // "3 on its last TRIAL": every what from 3 on, as "1 on" is said of the numbers of POINTS.
             default: return faults.lastTrial;
         }
     }
@@ -941,17 +944,18 @@ public final class CamStitch {
         int firstMissed(Pattern pattern) {
             int k = 1;
             int y = pattern.ys[0];
-            // The last STITCH counts for the end alone.
-            for (int j = 0; j < stitches - 1; j++) {
+            boolean isLastForPoint = false;
+            for (int j = 0; j < stitches; j++) {
                 y += feeds[j];
-                if (k < pattern.points && swings[j] == pattern.xs[k] && y == pattern.ys[k]) {
+                isLastForPoint = k < pattern.points && swings[j] == pattern.xs[k] && y == pattern.ys[k];
+                if (isLastForPoint) {
                     k++;
                 }
             }
-            if (k < pattern.points || stitches < 1) {
+            // A STITCH that counts for a POINT, as early as can be, doesn't count for the end besides.
+            if (k < pattern.points || isLastForPoint) {
                 return k;
             }
-            y += feeds[stitches - 1];
             boolean isAtEnd = needle() == pattern.xs[0] && y == pattern.ys[0] + pattern.advance;
             return isAtEnd ? k + 1 : k;
         }

@@ -145,13 +145,27 @@ public final class DiscTest {
         x.file(0, 2, 2);
         x.file(1, 2, 1);
         Due.due("only one stitch there", x.makes(), 2);
-        // The last stitch counts for the end alone.
+        // The last stitch counts for a point that none before it stands at, and then not for the end.
         Due.read(x, 1, 0, 0, 1, 0, 3, 6, 3, 0);
         Due.due("make", x.make(12, 12), 2);
         Due.due("a point at the end's place", x.makes(), 9999);
         x.file(0, 0, 2);
         x.file(1, 0, 1);
-        Due.due("only the last stitch is there", x.makes(), 1);
+        Due.due("only the last stitch is there", x.makes(), 2);
+        x.file(1, 0, 2);
+        Due.due("none is there", x.makes(), 1);
+        // A point away from the end, stood at by the last stitch; with one point more, that isn't reached either.
+        Due.work(x, -3, 3, -1, 1, 0, 1, 3, 1);
+        Due.read(x, 1, 0, -3, 1, 3, 3, 6, 8, 0);
+        Due.due("the last stitch is at the last point", x.makes(), 2);
+        Due.read(x, 1, 0, -3, 1, 3, 3, 1, 3, 3, 6, 8, 0);
+        Due.due("the last stitch is at the last point but one", x.makes(), 2);
+        Due.read(x, 1, 0, -3, 1, 0, 2, 1, 3, 3, 6, 8, 0);
+        Due.due("the last stitch is at the last of three points", x.makes(), 3);
+        // A stitch before the last one that stands at the point leaves the last one to the end.
+        Due.work(x, 3, 6, 0, 2);
+        Due.read(x, 1, 0, -3, 1, 3, 3, 6, 8, 0);
+        Due.due("the last stitch is left to the end", x.makes(), 9999);
         // The order of the points counts.
         Due.read(x, 1, 0, 0, 1, 1, 2, 1, 2, 1, 6, 3, 0);
         Due.work(x, 2, 1, 1, 1, 0, 1);
@@ -169,7 +183,7 @@ public final class DiscTest {
         CamStitch y = new CamStitch();
         Due.work(y, 0, 0);
         Due.read(y, 1, 0, 0, 1, 0, 0, 6, 0, 0);
-        Due.due("the one stitch is for the end", y.makes(), 1);
+        Due.due("the one stitch is for the point, none for the end", y.makes(), 2);
         y.begin();
         Due.due("after begin", y.makes(), -3);
     }

@@ -233,9 +233,12 @@ public final class FaultTest {
             hunted(x, h[0], h[1]);
         }
         Due.due("notes stay", x.count(4), 2);
-        // Every what from 3 on is the last trial.
-        Due.due("what 4", x.hunt(1391, 1, 4), x.hunt(1391, 1, 3));
-        Due.due("the greatest what", x.hunt(1391, 1, Integer.MAX_VALUE), 195);
+        Due.due("what 3", x.hunt(1391, 1, 3), 195);
+        int[] noWhats = {-1, 4, 9, Integer.MIN_VALUE, Integer.MAX_VALUE};
+        for (int what : noWhats) {
+            Due.due("what " + what, x.hunt(1391, 1, what), -1);
+            Due.due("what " + what + ", no trial", x.hunt(0, 0, what), -1);
+        }
     }
 
     /** A hunt made by hand, on another object. */

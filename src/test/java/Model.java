@@ -269,13 +269,16 @@ public final class Model {
         int j = 0;
         for (int k = 1; k < pattern.points.size(); k++) {
             int[] p = pattern.points.get(k);
-            while (j < n - 1 && (work.get(j)[0] != p[0] || ys[j] != p[1])) {
+            while (j < n && (work.get(j)[0] != p[0] || ys[j] != p[1])) {
                 j++;
             }
-            if (j >= n - 1) {
+            if (j == n) {
                 return k;
             }
             j++;
+        }
+        if (j == n) {
+            return pattern.points.size();
         }
         int[] p = pattern.points.get(0);
         return work.get(n - 1)[0] == p[0] && ys[n - 1] == p[1] + pattern.advance ? HOLDS : pattern.points.size();
@@ -670,6 +673,9 @@ public final class Model {
     }
 
     public int name(int d, int wear, int i) {
+        if (i < 0) {
+            return NONE;
+        }
         int against = againstRim(d, wear);
         if (against != 0) {
             return against;
@@ -795,7 +801,7 @@ public final class Model {
     }
 
     public int hunt(int state, int m, int what) {
-        if (state < 0 || state > 2771 || !isM(m) || what < 0) {
+        if (state < 0 || state > 2771 || !isM(m) || what < 0 || what > 3) {
             return NONE;
         }
         List<int[]> made = new ArrayList<>();

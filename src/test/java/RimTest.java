@@ -20,6 +20,9 @@ public final class RimTest {
         Due.due("wear 7, nothing held", x.names(0, 7), -1);
         Due.due("wear -1, nothing held", x.name(0, -1, 0), -1);
         Due.due("wear 7, nothing held", x.name(0, 7, 0), -1);
+        Due.due("a name below 0, nothing held", x.name(0, 0, -1), -1);
+        Due.due("the least number, nothing held", x.name(0, 0, Integer.MIN_VALUE), -1);
+        Due.due("no refusals of the host's", x.count(5), 0);
         Due.due("nothing", x.names(0, 0), -11);
         Due.due("nothing", x.name(0, 0, 0), -11);
         Due.due("nothing", x.wear(0), -11);
@@ -27,6 +30,7 @@ public final class RimTest {
             x.tape(0, sort, 3);
             Due.due("sort " + sort, x.names(0, 0), -12);
             Due.due("sort " + sort, x.name(0, 0, 0), -12);
+            Due.due("a name below 0, sort " + sort, x.name(0, 0, -1), -1);
             Due.due("sort " + sort, x.wear(0), -12);
         }
         Due.work(x, 0, 0);
@@ -36,6 +40,7 @@ public final class RimTest {
         x.tape(0, 1, 0);
         Due.due("empty", x.names(0, 0), -4);
         Due.due("empty", x.name(0, 0, 0), -4);
+        Due.due("a name below 0, empty", x.name(0, 0, -1), -1);
         Due.due("empty", x.wear(0), -4);
         x.tape(0, 1, 49);
         Due.due("49", x.names(0, 6), -4);
