@@ -56,7 +56,7 @@ public final class ModelTest {
 
     private void run() {
         while (calls < CALLS && !differs) {
-            switch (random.nextInt(14)) {
+            switch (random.nextInt(15)) {
                 case 0: patternOnTape(); break;
                 case 1: discs(); break;
                 case 2: hems(); break;
@@ -67,6 +67,7 @@ public final class ModelTest {
                 case 7: judges(); break;
                 case 8: looks(); break;
                 case 9: exactPattern(); break;
+                case 10: patternOfDisc(); break;
                 default: anything(); break;
             }
         }
@@ -172,6 +173,30 @@ public final class ModelTest {
         row(0, 1, orders);
         both("read", 0);
         both("make", from(3, 12), from(2, 12));
+        both("makes");
+    }
+
+    /** A pattern of places where the stitches of the disc at work stand, its last one mostly among them. */
+    private void patternOfDisc() {
+        int n = (int) both("disc", 0);
+        if (n < 1 || n > 20) {
+            return;
+        }
+        int y = from(-3, 3);
+        int length = (int) both("disc", 1);
+        int[] orders = {1, (int) both("stitch", n - 1, 0), y, 6, length + pick(0, 0, 1)};
+        for (int j = 0; j < n; j++) {
+            int x = (int) both("stitch", j, 0);
+            y += (int) both("stitch", j, 1);
+            if (j == n - 1 ? random.nextBoolean() : random.nextInt(4) == 0) {
+                orders = Arrays.copyOf(orders, orders.length + 3);
+                orders[orders.length - 3] = 1;
+                orders[orders.length - 2] = x;
+                orders[orders.length - 1] = y;
+            }
+        }
+        row(1, 1, Arrays.copyOf(orders, orders.length + 1));
+        both("read", 1);
         both("makes");
     }
 
