@@ -27,14 +27,15 @@ final class Due {
     }
 
     static void argument(String call, Call made) {
-        same(call, thrownBy(made), "IllegalArgumentException");
+        same(call, answerOf(made), "IllegalArgumentException");
     }
 
     static void state(String call, Call made) {
-        same(call, thrownBy(made), "IllegalStateException");
+        same(call, answerOf(made), "IllegalStateException");
     }
 
-    private static String thrownBy(Call made) {
+    /** The answer of a call in words, or the name of the exception that it throws. */
+    static String answerOf(Call made) {
         try {
             return "" + made.answer();
         } catch (RuntimeException e) {
