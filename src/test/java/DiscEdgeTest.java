@@ -285,8 +285,13 @@ public final class DiscEdgeTest {
         CamStitch none = new CamStitch();
         Due.work(none, 0, 0);
         Due.due("a pattern", none.makes(), 9999);
+        // "BARE: there is no PATTERN, or no DISC at work": a DISC alone comes from a TAPE behind begin().
+        none.keep(0);
         none.begin();
         Due.due("neither", none.makes(), -3);
+        Due.due("a disc", none.back(0), 1);
+        Due.due("no pattern", none.makes(), -3);
+        Due.due("no pattern to make", none.make(1, 1), -3);
     }
 
     /** "the last STITCH at the first POINT with the ADVANCE"; "the count of POINTS stands for that end". */

@@ -307,6 +307,17 @@ public final class PatternEdgeTest {
         reads(-100, 6);
         reads(-101, 3);
         reads(-100, 5);
+        // At the end of the longest row: the numbers are there, or lack by one.
+        int[][] ends = {{1, 2}, {2, 2}, {4, 1}, {6, 1}};
+        for (int[] end : ends) {
+            for (int behind = 0; behind <= end[1]; behind++) {
+                long[] orders = new long[400];
+                Arrays.fill(orders, 3);
+                Arrays.fill(orders, 399 - behind, 400, 1);
+                orders[399 - behind] = end[0];
+                reads(behind < end[1] ? -100 - (399 - behind) : -500, orders);
+            }
+        }
     }
 
     /** "or the row's length, if it ends without a 0" */

@@ -628,6 +628,20 @@ public final class SewEdgeTest {
         x.step(1, 1);
         Due.due("sew", x.sew(), 6);
         Due.due("beyond it: a new place", x.seam(6), 2);
+        // Places that share x 0 or y 0 with the beginning, each way, are new ones.
+        int[][] axes = {{5, 0}, {-5, 0}, {0, 5}, {0, -5}};
+        for (int[] a : axes) {
+            CamStitch z = new CamStitch();
+            Due.work(z, a[0], a[1], 0, 0);
+            z.step(1, 1);
+            Due.due("sew", z.sew(), 1);
+            Due.due("x", z.sewn(0, 0), a[0]);
+            Due.due("y", z.sewn(0, 1), a[1]);
+            Due.due("a new place on an axis", z.seam(6), 0);
+            z.file(0, 0, 0);
+            Due.due("sew", z.sew(), 1);
+            Due.due("the beginning again", z.seam(6), 1);
+        }
         // The same x or y alone is another place: 0 5, 0 10, then across.
         CamStitch y = new CamStitch();
         Due.work(y, 0, 5);
